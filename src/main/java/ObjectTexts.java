@@ -262,7 +262,7 @@ public final class ObjectTexts {
         }
 
         boolean isPair(int object) {
-            return kindOf(object) == PAIR;
+            return has(object) && (keys[object] & KIND_MASK) == PAIR;
         }
 
         int firstOf(int object) {
@@ -336,7 +336,7 @@ public final class ObjectTexts {
             for (int k = 0; k < slots.length; k++) {
                 int slot = (start + k) & (slots.length - 1);
                 int object = slots[slot];
-                if (!has(object) || keys[object] == key) {
+                if (object < 0 || object >= count || keys[object] == key) {
                     return slot;
                 }
             }
