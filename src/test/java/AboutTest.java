@@ -1,140 +1,200 @@
-/** Promises 12 to 14: about, same, below. */
+/** Promise 12: about. */
 public final class AboutTest {
-    private static final int[] NO_PLACES = {-1, 8, 9, Integer.MAX_VALUE, Integer.MIN_VALUE};
+    private static final int NONE = Run.NONE;
 
     public static void main(String[] args) {
-        objectsAreLookedThrough();
+        kindsAreTold();
+        depthsAreTold();
+        lengthsAreTold();
+        pairsAreCounted();
+        atomsAreCounted();
         sharedPartsCountOnce();
-        wrongQuestions();
-        equalOnesAreTheSame();
-        lowerTextsAreBelow();
-        only200CharactersCount();
+        longListsAreLookedThrough();
+        noSuchPlace();
+        anotherWhat();
         Checks.finish();
     }
 
-    private static void about(String text, int... wants) {
-        ObjectTexts x = Checks.with(text);
-        for (int what = 0; what < wants.length; what++) {
-            Checks.due("about(0, " + what + ") of [" + text + "]", x.about(0, what), wants[what]);
+    private static void about(String text, int what, int want) {
+        Run run = Run.with(text);
+        run.about(0, what, want);
+        run.about(0, what, want);
+    }
+
+    private static void kindsAreTold() {
+        Checks.sentence("Promise 12",
+            "Of the object in PLACE p: 0 a NATURAL, 1 a SYMBOL, 2 a pair (what 0);");
+        about("0", 0, 0);
+        about("4611686018427387903", 0, 0);
+        about("a", 0, 1);
+        about("nil", 0, 1);
+        about("t", 0, 1);
+        about("()", 0, 1);
+        about("1+", 0, 1);
+        about("(a)", 0, 2);
+        about("(1 . 2)", 0, 2);
+        about("'a", 0, 2);
+        Run run = new Run();
+        for (int p = 0; p < 8; p++) {
+            run.about(p, 0, 1);
+            run.set(p, p, true);
+            run.about(p, 0, 0);
+            run.cons(p, p, p, true);
+            run.about(p, 0, 2);
         }
     }
 
-    private static void objectsAreLookedThrough() {
-        about("nil", 1, 0, 0, 0, 1);
-        about("()", 1, 0, 0, 0, 1);
-        about("t", 1, 0, -1, 0, 1);
-        about("5", 0, 0, -1, 0, 1);
-        about("(a)", 2, 1, 1, 1, 2);
-        about("(a . b)", 2, 1, -1, 1, 2);
-        about("(a a a)", 2, 3, 3, 3, 2);
-        about("(a b . c)", 2, 2, -1, 2, 3);
-        about("((a) (a))", 2, 3, 2, 3, 2);
-        about("((a) a)", 2, 2, 2, 2, 2);
-        about("((a . b) . (a . b))", 2, 2, -1, 2, 2);
-        about("'a", 2, 2, 2, 2, 3);
-        about("(nil)", 2, 1, 1, 1, 1);
-        about("(1 01 x 001)", 2, 4, 4, 4, 3);
-        about("((((a))))", 2, 4, 1, 4, 2);
-        about("(a . nil)", 2, 1, 1, 1, 2);
-        about("(1 . 1)", 2, 1, -1, 1, 1);
+    private static void depthsAreTold() {
+        Checks.sentence("Promise 12",
+            "0 of what is no pair, else 1 and the greater one of both sides' (1);");
+        about("nil", 1, 0);
+        about("a", 1, 0);
+        about("5", 1, 0);
+        about("(a)", 1, 1);
+        about("(a . b)", 1, 1);
+        about("(a b)", 1, 2);
+        about("(a b c)", 1, 3);
+        about("((a) . b)", 1, 2);
+        about("(a . (b))", 1, 2);
+        about("((((a))))", 1, 4);
+        about("((a b c) d)", 1, 4);
+        about("(a (b c d))", 1, 5);
+        about("((a . b) . (c . d))", 1, 2);
+        about("'a", 1, 2);
+        about("''a", 1, 4);
+        about("(".repeat(40) + "a" + ")".repeat(40), 1, 40);
+        about("'".repeat(40) + "a", 1, 80);
+        Run run = new Run();
+        for (int k = 1; k <= 250; k++) {
+            run.cons(k % 2, 2, 1 - k % 2, true);
+            run.about(1 - k % 2, 1, k);
+        }
+    }
+
+    private static void lengthsAreTold() {
+        Checks.sentence("Promise 12", "how many elements a LIST has, NONE of another one (2);");
+        about("nil", 2, 0);
+        about("()", 2, 0);
+        about("(a)", 2, 1);
+        about("(nil)", 2, 1);
+        about("(nil nil)", 2, 2);
+        about("((a b c))", 2, 1);
+        about("(a . (b c))", 2, 3);
+        about("'a", 2, 2);
+        about("(a . 'b)", 2, 3);
+        about("((a . b) (c . d))", 2, 2);
+        about("(" + "a ".repeat(998) + ")", 2, 998);
+        about("a", 2, NONE);
+        about("t", 2, NONE);
+        about("0", 2, NONE);
+        about("(a . b)", 2, NONE);
+        about("(a b c . d)", 2, NONE);
+        about("((a) . t)", 2, NONE);
+        about("(nil . 0)", 2, NONE);
+        about("(" + "a ".repeat(995) + ". b)", 2, NONE);
+    }
+
+    private static void pairsAreCounted() {
+        Checks.sentence("Promise 12", "how many different pairs there are in it, itself too (3);");
+        about("nil", 3, 0);
+        about("a", 3, 0);
+        about("5", 3, 0);
+        about("(a)", 3, 1);
+        about("(a . b)", 3, 1);
+        about("(a a)", 3, 2);
+        about("((a) a)", 3, 2);
+        about("((a) (a))", 3, 3);
+        about("((a . b) . (a . b))", 3, 2);
+        about("((a . b) . (b . a))", 3, 3);
+        about("((a) . (a))", 3, 2);
+        about("('a 'a)", 3, 4);
+        about("('a . 'a)", 3, 3);
+        about("(((x) (x)) (x) (x))", 3, 4);
+        about("((1 . 2) (01 . 002))", 3, 3);
+    }
+
+    private static void atomsAreCounted() {
+        Checks.sentence("Promise 12", "how many different atoms (4).");
+        about("nil", 4, 1);
+        about("()", 4, 1);
+        about("a", 4, 1);
+        about("5", 4, 1);
+        about("(a)", 4, 2);
+        about("(nil)", 4, 1);
+        about("(a . b)", 4, 2);
+        about("(a . a)", 4, 1);
+        about("(a a a)", 4, 2);
+        about("(a b . a)", 4, 2);
+        about("(1 01 001 . 1)", 4, 1);
+        about("(1 a 1+ . -1)", 4, 4);
+        about("'a", 4, 3);
+        about("'quote", 4, 2);
+        about("((a b) (b a) . nil)", 4, 3);
+        about("(t nil)", 4, 2);
     }
 
     private static void sharedPartsCountOnce() {
-        ObjectTexts x = new ObjectTexts();
-        for (int k = 0; k < 450; k++) {
-            x.cons(0, 0, 0);
+        Checks.sentence("Promise 12", "how many different pairs there are in it, itself too (3);");
+        Run run = new Run();
+        for (int k = 1; k <= 480; k++) {
+            run.cons(0, 0, 0, true);
         }
-        Checks.due("about(0, 1)", x.about(0, 1), 450);
-        Checks.due("about(0, 2)", x.about(0, 2), 450);
-        Checks.due("about(0, 3)", x.about(0, 3), 450);
-        Checks.due("about(0, 4)", x.about(0, 4), 1);
-        Checks.due("about(0, 3) again", x.about(0, 3), 450);
-        x.side(0, 1, 1);
-        Checks.due("about(1, 3)", x.about(1, 3), 449);
+        for (int again = 0; again < 2; again++) {
+            run.about(0, 1, 480);
+            run.about(0, 2, 480);
+            run.about(0, 3, 480);
+            run.about(0, 4, 1);
+        }
+        run.side(0, 1, 1, true);
+        run.about(1, 3, 479);
+        run.about(1, 1, 479);
+        run.cons(1, 0, 2, true);
+        run.about(2, 3, 481);
+        run.about(2, 1, 481);
     }
 
-    private static void wrongQuestions() {
-        ObjectTexts x = Checks.with("(a b)");
-        for (int p : NO_PLACES) {
+    private static void longListsAreLookedThrough() {
+        Checks.sentence("Promise 12", "how many different atoms (4).");
+        StringBuilder text = new StringBuilder("(");
+        int atoms = 0;
+        for (; text.length() < 2994; atoms++) {
+            text.append(atoms).append(' ');
+        }
+        Run run = Run.with(text + ")");
+        run.about(0, 0, 2);
+        run.about(0, 1, atoms);
+        run.about(0, 2, atoms);
+        run.about(0, 3, atoms);
+        run.about(0, 4, atoms + 1);
+        // 150 pairs more, each with the old list in it.
+        for (int k = 0; k < 150; k++) {
+            run.cons(0, 0, 0, true);
+        }
+        run.about(0, 1, atoms + 150);
+        run.about(0, 2, atoms + 150);
+        run.about(0, 3, atoms + 150);
+        run.about(0, 4, atoms + 1);
+    }
+
+    private static void noSuchPlace() {
+        Checks.sentence("Promise 12", "NONE when there is no such PLACE,");
+        Run run = Run.with("(a b)", "7");
+        for (int none : Run.NO_PLACES) {
             for (int what = -1; what <= 5; what++) {
-                Checks.due("about(" + p + ", " + what + ")", x.about(p, what), -1);
-            }
-            Checks.due("same(" + p + ", 0)", x.same(p, 0), false);
-            Checks.due("same(0, " + p + ")", x.same(0, p), false);
-            Checks.due("same(" + p + ", " + p + ")", x.same(p, p), false);
-            Checks.due("below(" + p + ", 1)", x.below(p, 1), false);
-            Checks.due("below(0, " + p + ")", x.below(0, p), false);
-        }
-        for (int what : new int[] {-1, 5, 6, Integer.MAX_VALUE, Integer.MIN_VALUE}) {
-            Checks.due("about(0, " + what + ")", x.about(0, what), -1);
-        }
-    }
-
-    private static void equalOnesAreTheSame() {
-        ObjectTexts x = Checks.with("(a (1 . b) 'c)", "(a (01 . b) (quote c))", "a", "1",
-            "(a . (b))", "(a b . c)");
-        Checks.due("same(0, 1)", x.same(0, 1), true);
-        Checks.due("same(1, 0)", x.same(1, 0), true);
-        Checks.due("same(2, 3)", x.same(2, 3), false);
-        Checks.due("same(4, 5)", x.same(4, 5), false);
-        Checks.due("same(6, 7)", x.same(6, 7), true);
-        Checks.due("same(2, 2)", x.same(2, 2), true);
-        x.side(4, 0, 6);
-        Checks.due("same(2, 6)", x.same(2, 6), true);
-        x.side(4, 1, 7);
-        x.cons(6, 7, 0);
-        Checks.due("same(4, 0)", x.same(4, 0), true);
-        x.set(7, 1);
-        Checks.due("same(3, 7)", x.same(3, 7), true);
-        // Symbols and naturals with numbers alike inside must not meet.
-        ObjectTexts y = Checks.with("a", "b", "z", "_", "aa");
-        for (long n = 0; n < 100; n++) {
-            y.set(5, n);
-            for (int p = 0; p < 5; p++) {
-                Checks.due("same(" + p + ", 5) of " + n, y.same(p, 5), false);
+                run.about(none, what, NONE);
             }
         }
     }
 
-    private static void isBelow(String low, String high) {
-        ObjectTexts x = Checks.with(low, high);
-        Checks.due("[" + low + "] below [" + high + "]", x.below(0, 1), true);
-        Checks.due("[" + high + "] below [" + low + "]", x.below(1, 0), false);
-        Checks.due("[" + low + "] below itself", x.below(0, 0), false);
-    }
-
-    private static void lowerTextsAreBelow() {
-        isBelow("a", "b");
-        isBelow("a", "aa");
-        isBelow("10", "9");
-        isBelow("1", "10");
-        isBelow("9", "a");
-        isBelow("(z)", "0");
-        isBelow("'z", "(a)");
-        isBelow("(a b)", "(a)");
-        isBelow("(a)", "(aa)");
-        isBelow("(a . z)", "(a 0)");
-        isBelow("nil", "t");
-        isBelow("+", "-");
-        isBelow("?", "_");
-        isBelow("_", "a");
-        isBelow("007", "8");
-    }
-
-    private static void only200CharactersCount() {
-        // 1 + 2 * 99 characters ahead of the last atom, which begins at the 200th.
-        String list = "(" + "a ".repeat(99);
-        isBelow(list + "b)", list + "c)");
-        ObjectTexts x = Checks.with(list + "bc)", list + "bd)", list + "b)", list + "b x)");
-        for (int p = 0; p < 4; p++) {
-            for (int q = 0; q < 4; q++) {
-                Checks.due("below(" + p + ", " + q + ")", x.below(p, q), false);
+    private static void anotherWhat() {
+        Checks.sentence("Promise 12", "or for another what.");
+        for (String text : new String[] {"(a b)", "7", "x", "nil"}) {
+            Run run = Run.with(text);
+            for (int what : new int[] {-1, 5, 6, 7, -2, 255, 256, 260, Integer.MAX_VALUE,
+                Integer.MIN_VALUE, Integer.MIN_VALUE + 1}) {
+                run.about(0, what, NONE);
+                run.about(7, what, NONE);
             }
         }
-        String shorter = "(" + "a ".repeat(98);
-        // These end, or differ, with character 199 (the 200th).
-        isBelow(shorter + "ab )", shorter + "abc)");
-        isBelow(shorter + "ab . c)", shorter + "abc)");
-        isBelow(shorter + "a )", shorter + "ab)");
     }
 }

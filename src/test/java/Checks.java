@@ -1,16 +1,25 @@
-/** What the tests share: comparing answers, and giving and getting whole texts. */
+/** What the tests share: setting answers beside the due ones, by the document's sentences. */
 final class Checks {
     private static int made = 0;
     private static int wrong = 0;
+    private static String sentence = "";
 
     private Checks() {
+    }
+
+    /**
+     * The next answers are due by these words of the document: of the promise itself, or of the part
+     * in brackets that the promise rests on. SentencesTest looks that the words stand there.
+     */
+    static void sentence(String promise, String words) {
+        sentence = promise + ", \"" + words + "\": ";
     }
 
     static void due(String call, long got, long want) {
         made++;
         if (got != want) {
             wrong++;
-            System.out.println(call + " answered " + got + ", due is " + want);
+            System.out.println(sentence + call + " answered " + got + ", due is " + want);
         }
     }
 
@@ -22,58 +31,17 @@ final class Checks {
         made++;
         if (!got.equals(want)) {
             wrong++;
-            System.out.println(call + " answered [" + got + "], due is [" + want + "]");
+            System.out.println(sentence + call + " answered [" + got + "], due is [" + want + "]");
         }
     }
 
-    /** Lets up to twenty characters, each one byte, wait. */
+    /** Lets up to twenty characters, each one byte, wait; the others are 0. */
     static void feed(ObjectTexts x, String twenty) {
         int[] words = new int[5];
         for (int k = 0; k < twenty.length(); k++) {
             words[k / 4] |= (twenty.charAt(k) & 255) << (24 - 8 * (k % 4));
         }
         x.feed(words[0], words[1], words[2], words[3], words[4]);
-    }
-
-    /** Brings the characters behind the TEXT. */
-    static void write(ObjectTexts x, String text) {
-        for (int from = 0; from < text.length(); from += 20) {
-            String part = text.substring(from, Math.min(from + 20, text.length()));
-            feed(x, part);
-            if (x.end(part.length()) == ObjectTexts.NONE) {
-                due("end(" + part.length() + ") of a test's text", 0, 1);
-            }
-        }
-    }
-
-    static int read(ObjectTexts x, int p, String text) {
-        write(x, text);
-        return x.read(p);
-    }
-
-    /** A new object with what the texts tell in its first PLACES. */
-    static ObjectTexts with(String... texts) {
-        ObjectTexts x = new ObjectTexts();
-        for (int p = 0; p < texts.length; p++) {
-            due("read(" + p + ") of [" + texts[p] + "]", read(x, p, texts[p]), 0);
-        }
-        return x;
-    }
-
-    /** A long OUT takes more than 512 calls: this class counts none, and letter() changes nothing. */
-    static String out(ObjectTexts x) {
-        StringBuilder text = new StringBuilder();
-        for (int k = 0; x.letter(k) != ObjectTexts.NONE; k++) {
-            text.append((char) x.letter(k));
-        }
-        return text.toString();
-    }
-
-    static String told(ObjectTexts x, int p) {
-        int length = x.tell(p);
-        String text = out(x);
-        due("tell(" + p + ") of [" + text + "]", length, text.length());
-        return text;
     }
 
     static void finish() {

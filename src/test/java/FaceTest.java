@@ -14,21 +14,27 @@ public final class FaceTest {
         "int about(int,int)", "boolean same(int,int)", "boolean below(int,int)");
 
     public static void main(String[] args) {
-        membersAreTheDocuments();
+        methodsAreTheDocuments();
+        fieldsAndConstructorsAreTheDocuments();
         classesInsideAreStatic();
-        newObjectIsEmpty();
+        newObjectHasNilInItsPlaces();
+        newObjectHasNoText();
+        newObjectHasNoOut();
+        thereAreEightPlaces();
         objectsAreApart();
         Checks.finish();
     }
 
-    private static void membersAreTheDocuments() {
+    private static void methodsAreTheDocuments() {
+        Checks.sentence("All promises (The public face)", "public final class ObjectTexts {");
         Set<String> open = new TreeSet<>();
         Set<String> openNames = new TreeSet<>();
         for (Method method : ObjectTexts.class.getDeclaredMethods()) {
             if (!Modifier.isPrivate(method.getModifiers())) {
                 open.add(faceOf(method));
                 openNames.add(method.getName());
-                Checks.due(method + " is public", Modifier.isPublic(method.getModifiers()), true);
+                Checks.due(method + " is public, nothing else", method.getModifiers(),
+                    Modifier.PUBLIC);
             }
         }
         Checks.due("methods", open.toString(), new TreeSet<>(METHODS).toString());
@@ -37,16 +43,6 @@ public final class FaceTest {
                 && openNames.contains(method.getName());
             Checks.due(method + " bears a public name", clash, false);
         }
-        for (Field field : ObjectTexts.class.getDeclaredFields()) {
-            boolean isPrivate = Modifier.isPrivate(field.getModifiers());
-            Checks.due(field + " is open", !isPrivate, field.getName().equals("NONE"));
-        }
-        Constructor<?>[] constructors = ObjectTexts.class.getDeclaredConstructors();
-        Checks.due("constructors", constructors.length, 1);
-        Checks.due("constructor's arguments", constructors[0].getParameterCount(), 0);
-        Checks.due("class is public and final", ObjectTexts.class.getModifiers(),
-            Modifier.PUBLIC | Modifier.FINAL);
-        Checks.due("NONE", ObjectTexts.NONE, -1);
     }
 
     private static String faceOf(Method method) {
@@ -60,7 +56,24 @@ public final class FaceTest {
         return face.append(')').toString();
     }
 
+    private static void fieldsAndConstructorsAreTheDocuments() {
+        Checks.sentence("All promises (The public face)", "public static final int NONE = -1;");
+        Checks.due("NONE", ObjectTexts.NONE, -1);
+        for (Field field : ObjectTexts.class.getDeclaredFields()) {
+            boolean isPrivate = Modifier.isPrivate(field.getModifiers());
+            Checks.due(field + " is open", !isPrivate, field.getName().equals("NONE"));
+        }
+        Checks.sentence("All promises (The public face)", "public ObjectTexts();");
+        Constructor<?>[] constructors = ObjectTexts.class.getDeclaredConstructors();
+        Checks.due("constructors", constructors.length, 1);
+        Checks.due("constructor's arguments", constructors[0].getParameterCount(), 0);
+        Checks.due("constructor is public", constructors[0].getModifiers(), Modifier.PUBLIC);
+        Checks.due("class is public and final", ObjectTexts.class.getModifiers(),
+            Modifier.PUBLIC | Modifier.FINAL);
+    }
+
     private static void classesInsideAreStatic() {
+        Checks.sentence("All promises (The public face)", "public final class ObjectTexts {");
         for (Class<?> inside : ObjectTexts.class.getDeclaredClasses()) {
             int modifiers = inside.getModifiers();
             Checks.due(inside + " is static", Modifier.isStatic(modifiers), true);
@@ -69,24 +82,75 @@ public final class FaceTest {
         }
     }
 
-    private static void newObjectIsEmpty() {
-        ObjectTexts x = new ObjectTexts();
-        Checks.due("letter(0) of a new object", x.letter(0), -1);
-        Checks.due("fault(0) of a new object", x.fault(0), 0);
-        Checks.due("fault(1) of a new object", x.fault(1), -1);
-        Checks.due("end(0) of a new object", x.end(0), 0);
+    private static void newObjectHasNilInItsPlaces() {
+        Checks.sentence("Promise 1", "Nil in all PLACES;");
+        Run run = new Run();
         for (int p = 0; p < 8; p++) {
-            Checks.due("place " + p, Checks.told(x, p), "nil");
-            Checks.due("about(" + p + ", 0)", x.about(p, 0), 1);
-            Checks.due("same(0, " + p + ")", x.same(0, p), true);
+            run.about(p, 0, 1);
+            run.about(p, 2, 0);
+            run.same(0, p, true);
+            run.isTold(p, "nil");
         }
-        Checks.due("tell(8)", x.tell(8), -1);
+        // The nil that is read is the same one.
+        run.read(3, "nil", 0);
+        run.same(3, 4, true);
+    }
+
+    private static void newObjectHasNoText() {
+        Checks.sentence("Promise 1", "no TEXT,");
+        new Run().end(0, 0);
+        Run one = new Run();
+        one.feed("a");
+        one.end(1, 1);
+        Run none = new Run();
+        none.read(0, 3);
+        none.fault(1, 0);
+    }
+
+    private static void newObjectHasNoOut() {
+        Checks.sentence("Promise 1", "OUT is empty.");
+        new Run().hasOut("");
+        Checks.sentence("Promise 7 (Terms)", "OUT is empty at first.");
+        Run run = new Run();
+        for (int k : new int[] {0, 1, -1, 1999, 2000, Integer.MAX_VALUE, Integer.MIN_VALUE}) {
+            run.letter(k, Run.NONE);
+        }
+    }
+
+    private static void thereAreEightPlaces() {
+        Checks.sentence("All promises (Terms)",
+            "There are eight PLACES, 0 .. 7, with an object each (nil at first).");
+        Run run = new Run();
+        for (int p = 0; p < 8; p++) {
+            run.set(p, 100 + p, true);
+        }
+        for (int p = 0; p < 8; p++) {
+            run.number(p, 100 + p);
+        }
+        for (int p : Run.NO_PLACES) {
+            run.set(p, 5, false);
+            run.number(p, Run.NONE);
+            run.tell(p, Run.NONE);
+        }
+        for (int p = 0; p < 8; p++) {
+            run.number(p, 100 + p);
+        }
     }
 
     private static void objectsAreApart() {
-        ObjectTexts x = Checks.with("(a b)");
-        ObjectTexts y = new ObjectTexts();
-        Checks.due("the other's place", Checks.told(y, 0), "nil");
-        Checks.due("the first one's OUT", x.letter(0), -1);
+        Checks.sentence("Promise 1", "Nil in all PLACES; no TEXT, OUT is empty.");
+        Run first = Run.with("(a b)");
+        first.feed("x");
+        first.write("(a");
+        first.isTold(0, "(a b)");
+        first.feed("y");
+        Run second = new Run();
+        second.hasOut("");
+        second.end(0, 0);
+        second.fault(0, 0);
+        second.fault(1, Run.NONE);
+        second.isTold(0, "nil");
+        first.hasOut("(a b)");
+        first.end(1, 3);
     }
 }

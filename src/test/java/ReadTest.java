@@ -1,255 +1,204 @@
 /** Promises 4 and 5: read, fault. */
 public final class ReadTest {
-    private static final String SIGNS = "abcdefghijklmnopqrstuvwxyz0123456789+-*/<>=?!_";
+    private static final int NONE = Run.NONE;
+    /** A text of each FAULT, by its number; the first one has none. */
+    private static final String[] TEXTS = {"(x y)", "(x #", "(x abcdefghijkl", "(x . )",
+        "(x " + "(".repeat(40), "(" + "x ".repeat(1000)};
+    private static final int[] THEIR_PLACES = {NONE, 3, 3, 5, 42, 1999};
 
     public static void main(String[] args) {
-        objectsAreRead();
-        blanksAreSkipped();
-        atomsHaveTheirCharacters();
-        strangeCharacters();
-        tooGreatAtoms();
-        wordsThatCantStand();
-        theEndThatCantStand();
-        tooDeep();
-        tooManyWords();
-        theLeastAndTheFirstCount();
-        placesAndTheText();
-        theLatestFault();
+        objectComesToItsPlace();
+        textIsEmptyThen();
+        placeStaysBehindAFault();
+        emptyTextIsNoObject();
+        noSuchPlace();
+        textStaysWithoutAPlace();
+        faultOfTheLatestRead();
+        faultBeforeARead();
+        faultOfARefusedReadIsNone();
+        otherQuestionsAreNone();
         Checks.finish();
     }
 
-    private static void reads(String text, String told) {
-        ObjectTexts x = new ObjectTexts();
-        Checks.due("read(3) of [" + text + "]", Checks.read(x, 3, text), 0);
-        Checks.due("fault(0) of [" + text + "]", x.fault(0), 0);
-        Checks.due("fault(1) of [" + text + "]", x.fault(1), -1);
-        Checks.due("[" + text + "]", Checks.told(x, 3), told);
-    }
-
-    private static void fails(String text, int fault, int place) {
-        ObjectTexts x = new ObjectTexts();
-        x.set(3, 77);
-        Checks.due("read(3) of [" + text + "]", Checks.read(x, 3, text), fault);
-        Checks.due("fault(0) of [" + text + "]", x.fault(0), fault);
-        Checks.due("fault(1) of [" + text + "]", x.fault(1), place);
-        Checks.due("number(3) behind [" + text + "]", x.number(3), 77);
-        Checks.due("end(0) behind [" + text + "]", x.end(0), 0);
-    }
-
-    private static void objectsAreRead() {
-        reads("a", "a");
-        reads("nil", "nil");
-        reads("t", "t");
-        reads("0", "0");
-        reads("()", "nil");
-        reads("( )", "nil");
-        reads("(())", "(nil)");
-        reads("(a)", "(a)");
-        reads("(a b c)", "(a b c)");
-        reads("(a . b)", "(a . b)");
-        reads("(a.b)", "(a . b)");
-        reads("(a b . c)", "(a b . c)");
-        reads("(a . (b . (c . nil)))", "(a b c)");
-        reads("(a . ())", "(a)");
-        reads("(a . (b . c))", "(a b . c)");
-        reads("((a . b) . (c . d))", "((a . b) c . d)");
-        reads("'a", "'a");
-        reads("' a", "'a");
-        reads("''a", "''a");
-        reads("'(a 'b)", "'(a 'b)");
-        reads("('a . 'b)", "('a quote b)");
-        reads("(a . 'b)", "(a quote b)");
-        reads("'()", "'nil");
-        reads("(a(b)c)", "(a (b) c)");
-        reads("(a'b)", "(a 'b)");
-        reads("(1 . 2)", "(1 . 2)");
-        reads("(1.2)", "(1 . 2)");
-    }
-
-    private static void blanksAreSkipped() {
-        reads("  \n x \n ", "x");
-        reads("x;y", "x");
-        reads(";one\n;two\n x ; three\n;four", "x");
-        reads("(a ; ) \n b)", "(a b)");
-        reads("(a;;'\"#\nb)", "(a b)");
-        reads("'\n;of\n(;\n)", "'nil");
-        reads("x;\t\u0001\u00ff\u0080", "x");
-        reads("\n(\na\n.\nb\n)\n", "(a . b)");
-    }
-
-    private static void atomsHaveTheirCharacters() {
-        for (int k = 0; k < SIGNS.length(); k++) {
-            String sign = SIGNS.substring(k, k + 1);
-            reads(sign, sign);
-            reads("x" + sign + "y", "x" + sign + "y");
-            reads("(" + sign + ")", "(" + sign + ")");
-        }
-        reads("-1", "-1");
-        reads("1+", "1+");
-        reads("+", "+");
-        reads("00", "0");
-        reads("007", "7");
-        reads("00x", "00x");
-        reads("abcdefghijk", "abcdefghijk");
-        reads("12345678901", "12345678901");
-        reads("___________", "___________");
-        reads("4611686018427387903", "4611686018427387903");
-        reads("0".repeat(500) + "4611686018427387903", "4611686018427387903");
-        ObjectTexts x = Checks.with("-1", "1+", "1");
-        Checks.due("about(0, 0) of -1", x.about(0, 0), 1);
-        Checks.due("about(1, 0) of 1+", x.about(1, 0), 1);
-        Checks.due("about(2, 0) of 1", x.about(2, 0), 0);
-    }
-
-    private static void strangeCharacters() {
-        for (char sign = 0; sign < 256; sign++) {
-            boolean begins = SIGNS.indexOf(sign) >= 0 || "()'. \n;".indexOf(sign) >= 0;
-            if (!begins) {
-                fails("(a " + sign + ")", 1, 3);
-                fails("ab" + sign, 1, 2);
-                fails(String.valueOf(sign), 1, 0);
+    private static void objectComesToItsPlace() {
+        Checks.sentence("Promise 4",
+            "The TEXT, which is empty then, is read: 0, and its object comes to PLACE p;");
+        for (int p = 0; p < 8; p++) {
+            Run run = new Run();
+            run.read(p, "(a (b . 12) 'c)", 0);
+            for (int q = 0; q < 8; q++) {
+                run.isTold(q, q == p ? "(a (b . 12) 'c)" : "nil");
             }
         }
+        Run again = Run.with("(a b)");
+        again.read(0, "7", 0);
+        again.number(0, 7);
+        again.read(0, "()", 0);
+        again.isTold(0, "nil");
     }
 
-    private static void tooGreatAtoms() {
-        fails("abcdefghijkl", 2, 0);
-        fails("(a abcdefghijkl b)", 2, 3);
-        fails("12345678901x", 2, 0);
-        fails("4611686018427387904", 2, 0);
-        fails("9223372036854775808", 2, 0);
-        fails("18446744073709551616", 2, 0);
-        fails("18446744073709551617", 2, 0);
-        fails(" 004611686018427387904", 2, 1);
-        fails("9".repeat(300), 2, 0);
-        fails("a".repeat(300), 2, 0);
-    }
-
-    private static void wordsThatCantStand() {
-        fails(")", 3, 0);
-        fails(".", 3, 0);
-        fails("a b", 3, 2);
-        fails("a)", 3, 1);
-        fails("a.", 3, 1);
-        fails("a 'b", 3, 2);
-        fails("a (b)", 3, 2);
-        fails("(a) ()", 3, 4);
-        fails("(a))", 3, 3);
-        fails("(. a)", 3, 1);
-        fails("(a . )", 3, 5);
-        fails("(a . . b)", 3, 5);
-        fails("(a . b c)", 3, 7);
-        fails("(a . b . c)", 3, 7);
-        fails("(a . b (c))", 3, 7);
-        fails("(a . b 'c)", 3, 7);
-        fails("(a . 'b c)", 3, 8);
-        fails("(a . () b)", 3, 8);
-        fails("(')", 3, 2);
-        fails("'.", 3, 1);
-        fails("'. a", 3, 1);
-        fails("(a '. b)", 3, 4);
-        fails("'a b", 3, 3);
-        fails("'(a) b", 3, 5);
-    }
-
-    private static void theEndThatCantStand() {
-        fails("", 3, 0);
-        fails("   ", 3, 3);
-        fails(" ; a\n", 3, 5);
-        fails(";", 3, 1);
-        fails("(", 3, 1);
-        fails("(a", 3, 2);
-        fails("(a .", 3, 4);
-        fails("(a . b ", 3, 7);
-        fails("'", 3, 1);
-        fails("('a ;)", 3, 6);
-    }
-
-    private static void tooDeep() {
-        reads("(".repeat(40) + ")".repeat(40), "(".repeat(39) + "nil" + ")".repeat(39));
-        reads("'".repeat(40) + "a", "'".repeat(40) + "a");
-        reads("('".repeat(20) + "a" + ")".repeat(20), "('".repeat(20) + "a" + ")".repeat(20));
-        fails("(".repeat(41) + ")".repeat(41), 4, 40);
-        fails("'".repeat(41) + "a", 4, 40);
-        fails("(".repeat(40) + "'a", 4, 40);
-        fails("'".repeat(40) + "(a)", 4, 40);
-        fails("('".repeat(20) + " ()", 4, 41);
-        // A ' ends with its object, and a ( with its ).
-        String ended = "'a '(b) ".repeat(30);
-        reads("(" + ended + ")", "(" + ended.trim() + ")");
-        String deep = "'".repeat(39) + "a";
-        reads("(" + deep + " " + deep + ")", "(" + deep + " " + deep + ")");
-        fails("(" + deep + " '" + deep + ")", 4, 81);
-        reads("(" + "(".repeat(39) + ")".repeat(39) + "'a)",
-            "((" + "(".repeat(37) + "nil" + ")".repeat(37) + ") 'a)");
-    }
-
-    private static void tooManyWords() {
-        String full = "(" + "a ".repeat(998) + ")";
-        reads(full, "(" + "a ".repeat(997) + "a)");
-        fails("(" + "a ".repeat(999) + ")", 5, 1999);
-        fails("(" + "a ".repeat(1100) + ")", 5, 1999);
-        fails("(" + "a ".repeat(999), 3, 1999);
-        fails("(" + "a ".repeat(999) + "   ", 3, 2002);
-        fails("(" + "()".repeat(499) + "a(", 5, 1000);
-        fails("(" + "()".repeat(499) + "a'", 5, 1000);
-        fails("(" + "()".repeat(499) + "a.", 5, 1000);
-        // At the place of the 1001st word a fault of a lower number counts.
-        fails(full + "a", 3, 1998);
-        fails(full + "#", 1, 1998);
-        fails("(" + "()".repeat(499) + "a#", 1, 1000);
-        fails("(" + "()".repeat(499) + "a abcdefghijkl", 2, 1001);
-        fails("(" + "()".repeat(479) + "(".repeat(39) + "aa a", 3, 1002);
-        fails("(" + "()".repeat(480) + "(".repeat(39) + "(", 4, 1000);
-        fails("(" + "() ".repeat(480) + "'".repeat(39) + ")", 3, 1480);
-    }
-
-    private static void theLeastAndTheFirstCount() {
-        fails("a #", 1, 2);
-        fails("a abcdefghijkl", 2, 2);
-        fails("(a . b abcdefghijkl)", 2, 7);
-        fails("(a . b #)", 1, 7);
-        fails(") #", 3, 0);
-        fails("abcdefghijkl #", 2, 0);
-        fails("(a . b " + "(".repeat(60), 3, 7);
-        fails("(".repeat(39) + "a . b ('", 3, 45);
-        fails("(".repeat(40) + "a . b (", 3, 46);
-        fails("(".repeat(40) + "a . b '", 3, 46);
-    }
-
-    private static void placesAndTheText() {
-        ObjectTexts x = new ObjectTexts();
-        Checks.write(x, "(a b)");
-        for (int p : new int[] {-1, 8, 9, Integer.MAX_VALUE, Integer.MIN_VALUE}) {
-            Checks.due("read(" + p + ")", x.read(p), -1);
-            Checks.due("end(0): the TEXT stays", x.end(0), 5);
+    private static void textIsEmptyThen() {
+        Checks.sentence("Promise 4", "The TEXT, which is empty then, is read:");
+        for (int fault = 0; fault <= 5; fault++) {
+            Run run = new Run();
+            run.read(0, TEXTS[fault], fault);
+            run.end(0, 0);
+            run.read(0, "z", 0);
+            run.isTold(0, "z");
+            run.end(0, 0);
         }
-        Checks.due("fault(0) before a read that took a TEXT", x.fault(0), 0);
-        Checks.due("read(7)", x.read(7), 0);
-        Checks.due("tell(7)", Checks.told(x, 7), "(a b)");
-        Checks.due("end(0): the TEXT is empty", x.end(0), 0);
+    }
+
+    private static void placeStaysBehindAFault() {
+        Checks.sentence("Promise 4", "or the FAULT (PLACE p stays).");
+        for (int fault = 1; fault <= 5; fault++) {
+            for (int p : new int[] {0, 7}) {
+                Run run = new Run();
+                run.read(p, "(a . b)", 0);
+                run.read(p, TEXTS[fault], fault);
+                for (int q = 0; q < 8; q++) {
+                    run.isTold(q, q == p ? "(a . b)" : "nil");
+                }
+            }
+        }
+        // Even when a whole object stood ahead of the fault.
+        Run run = Run.with("(a . b)");
+        run.read(0, "(c) d", 3);
+        run.isTold(0, "(a . b)");
+    }
+
+    private static void emptyTextIsNoObject() {
+        Checks.sentence("Promise 4", "or the FAULT (PLACE p stays).");
+        Run run = new Run();
+        run.set(5, 8, true);
+        run.read(5, 3);
+        run.number(5, 8);
+        run.fault(0, 3);
+        run.fault(1, 0);
+        run.read(5, "a", 0);
+        run.read(5, 3);
+        run.isTold(5, "a");
+    }
+
+    private static void noSuchPlace() {
+        Checks.sentence("Promise 4", "NONE, and the TEXT stays, when there is no such PLACE.");
+        Run run = new Run();
+        for (int p : Run.NO_PLACES) {
+            run.read(p, NONE);
+        }
+        run.write("(a b)");
+        for (int p : Run.NO_PLACES) {
+            run.read(p, NONE);
+        }
+        run.read(7, 0);
+        run.isTold(7, "(a b)");
+        run.read(8, NONE);
         for (int p = 0; p < 7; p++) {
-            Checks.due("place " + p, Checks.told(x, p), "nil");
+            run.isTold(p, "nil");
         }
-        Checks.due("read(7) of no text", x.read(7), 3);
-        Checks.due("fault(1)", x.fault(1), 0);
-        Checks.due("place 7 stays", Checks.told(x, 7), "(a b)");
     }
 
-    private static void theLatestFault() {
-        ObjectTexts x = new ObjectTexts();
-        Checks.due("read of (a", Checks.read(x, 0, "(a"), 3);
-        Checks.due("read(8)", x.read(8), -1);
-        Checks.due("fault(0) stays", x.fault(0), 3);
-        Checks.due("fault(1) stays", x.fault(1), 2);
-        for (int what : new int[] {-1, 2, 3, Integer.MAX_VALUE, Integer.MIN_VALUE}) {
-            Checks.due("fault(" + what + ")", x.fault(what), -1);
+    private static void textStaysWithoutAPlace() {
+        Checks.sentence("Promise 4", "NONE, and the TEXT stays, when there is no such PLACE.");
+        for (int p : Run.NO_PLACES) {
+            Run run = new Run();
+            run.write("(a ");
+            run.read(p, NONE);
+            run.end(0, 3);
+            run.write("b)");
+            run.read(p, NONE);
+            run.end(0, 5);
+            run.read(0, 0);
+            run.isTold(0, "(a b)");
         }
-        Checks.due("read of #", Checks.read(x, 0, " #"), 1);
-        Checks.due("fault(0)", x.fault(0), 1);
-        Checks.due("fault(1)", x.fault(1), 1);
-        Checks.due("read of a", Checks.read(x, 0, "a"), 0);
-        Checks.due("fault(0)", x.fault(0), 0);
-        Checks.due("fault(1)", x.fault(1), -1);
+        Run full = new Run();
+        full.write(" ".repeat(3000));
+        full.read(-1, NONE);
+        full.read(8, NONE);
+        full.end(1, NONE);
+        full.end(0, 3000);
+        full.read(0, 3);
+        full.fault(1, 3000);
+        full.end(0, 0);
+    }
+
+    private static void faultOfTheLatestRead() {
+        Checks.sentence("Promise 5",
+            "Of the latest read() that took a TEXT: the FAULT, 0 without one,");
+        for (int before = 0; before <= 4; before++) {
+            Run run = new Run();
+            for (int fault = 0; fault <= 5; fault++) {
+                run.read(0, TEXTS[before], before);
+                run.fault(0, before);
+                run.fault(1, THEIR_PLACES[before]);
+                run.read(1, TEXTS[fault], fault);
+                run.fault(0, fault);
+                run.fault(1, THEIR_PLACES[fault]);
+            }
+        }
+        Checks.sentence("Promise 5", "its place, NONE without one (1).");
+        Run run = new Run();
+        run.read(0, "#", 1);
+        run.fault(1, 0);
+        run.read(0, "a", 0);
+        run.fault(1, NONE);
+        run.read(0, "", 3);
+        run.fault(1, 0);
+    }
+
+    private static void faultBeforeARead() {
+        Checks.sentence("Promise 5", "or before (what 0),");
+        Run run = new Run();
+        run.fault(0, 0);
+        Checks.sentence("Promise 5", "its place, NONE without one (1).");
+        run.fault(1, NONE);
+        Checks.sentence("Promise 5", "or before (what 0), its place, NONE without one (1).");
+        run.write("(#");
+        run.fault(0, 0);
+        run.fault(1, NONE);
+        run.read(8, NONE);
+        run.fault(0, 0);
+        run.fault(1, NONE);
+    }
+
+    private static void faultOfARefusedReadIsNone() {
+        Checks.sentence("Promise 5", "Of the latest read() that took a TEXT:");
+        Run run = new Run();
+        run.read(0, "(a", 3);
+        run.write("#");
+        for (int p : Run.NO_PLACES) {
+            run.read(p, NONE);
+            run.fault(0, 3);
+            run.fault(1, 2);
+        }
+        // Other calls, refused ones too, leave it as it is.
+        run.end(21, NONE);
+        run.tell(8, NONE);
+        run.side(0, 0, 0, false);
+        run.cons(0, 0, 0, true);
+        run.tell(0, 5);
+        run.fault(0, 3);
+        run.fault(1, 2);
+        run.read(0, 1);
+        run.fault(0, 1);
+        run.fault(1, 0);
+    }
+
+    private static void otherQuestionsAreNone() {
+        Checks.sentence("Promise 5", "NONE for another what.");
+        int[] others = {-1, 2, 3, 4, 5, 8, 255, 256, 257, Integer.MAX_VALUE, Integer.MIN_VALUE,
+            Integer.MIN_VALUE + 1};
+        Run run = new Run();
+        for (int what : others) {
+            run.fault(what, NONE);
+        }
+        run.read(0, " #", 1);
+        for (int what : others) {
+            run.fault(what, NONE);
+        }
+        run.read(0, "a", 0);
+        for (int what : others) {
+            run.fault(what, NONE);
+        }
     }
 }

@@ -61,7 +61,12 @@ public final class RoomTest {
     }
 
     private static void quietCallsMakeNothing() {
-        ObjectTexts x = Checks.with("(a (b . c) 'd 42)", "(a (b . c) 'd 43)");
+        ObjectTexts x = new ObjectTexts();
+        for (int p = 0; p < 2; p++) {
+            Checks.feed(x, "(a (b . c) 'd 4" + p + ")");
+            Checks.due("end(17)", x.end(17), 17);
+            Checks.due("read(" + p + ")", x.read(p), 0);
+        }
         long before = made();
         for (int k = 0; k < 500; k++) {
             x.tell(0);
