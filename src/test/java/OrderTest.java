@@ -2,6 +2,7 @@
 public final class OrderTest {
     public static void main(String[] args) {
         equalOnesAreTheSame();
+        oldOnesStayTheSame();
         othersAreNotTheSame();
         kindsNeverMeet();
         sameOfAllPlaces();
@@ -47,6 +48,35 @@ public final class OrderTest {
         run.same(6, 7, true);
         run.cons(0, 3, 1, true);
         run.about(1, 3, 4);
+    }
+
+    /** 240 symbols of three characters. */
+    private static String manySymbols(int first) {
+        StringBuilder text = new StringBuilder("(");
+        for (int k = 0; k < 240; k++) {
+            text.append((char) ('a' + first)).append((char) ('a' + k / 16)).append((char) ('a' + k % 16));
+            text.append(' ');
+        }
+        return text.append(')').toString();
+    }
+
+    private static void oldOnesStayTheSame() {
+        Checks.sentence("Promise 13", "Whether the objects in two PLACES are equal.");
+        for (int salt = 0; salt < 24; salt++) {
+            Run run = Run.with("(nil quote t 7 . a)");
+            for (int p = 1; p <= 3; p++) {
+                run.read(p, manySymbols(salt + p - 1), 0);
+            }
+            run.read(4, manySymbols(salt), 0);
+            run.same(1, 4, true);
+            run.same(2, 4, false);
+            run.read(5, "nil", 0);
+            run.same(5, 6, true);
+            run.read(5, "(nil quote t 7 . a)", 0);
+            run.same(0, 5, true);
+            run.read(5, "(quote t)", 0);
+            run.isTold(5, "'t");
+        }
     }
 
     private static void othersAreNotTheSame() {

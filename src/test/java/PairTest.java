@@ -7,6 +7,7 @@ public final class PairTest {
         pairsArePutTogether();
         pairsOfAllPlaces();
         placesOfAPairMayBeOne();
+        manyPairsArePutTogether();
         consWithoutItsPlaces();
         pairsAreTakenApart();
         sidesOfAllPlaces();
@@ -14,6 +15,7 @@ public final class PairTest {
         sideOfAnotherWhich();
         sideOfNoPair();
         naturalsAreSet();
+        manyNaturalsAreSet();
         whatIsNoNaturalIsNotSet();
         setWithoutItsPlace();
         numbersAreTold();
@@ -69,6 +71,17 @@ public final class PairTest {
         run.isTold(0, "((a . b) a . b)");
         run.cons(2, 2, 2, true);
         run.isTold(2, "(nil)");
+    }
+
+    private static void manyPairsArePutTogether() {
+        Checks.sentence("Promise 8", "PLACE r gets the pair of the objects in p and q.");
+        Run run = Run.with("a", "b");
+        for (int k = 1; k <= 100; k++) {
+            run.cons(0, 2, 2, true);
+            run.about(2, 2, k);
+            run.cons(1, 2, 3, true);
+        }
+        run.isTold(3, "(b" + " a".repeat(100) + ")");
     }
 
     private static void consWithoutItsPlaces() {
@@ -188,6 +201,15 @@ public final class PairTest {
         }
         one.read(4, "0005", 0);
         one.same(3, 4, true);
+    }
+
+    private static void manyNaturalsAreSet() {
+        Checks.sentence("Promise 10", "PLACE p gets a NATURAL.");
+        Run run = new Run();
+        for (int k = 0; k < 256; k++) {
+            run.set(k % 8, MOST - 3L * k, true);
+            run.number(k % 8, MOST - 3L * k);
+        }
     }
 
     private static void whatIsNoNaturalIsNotSet() {

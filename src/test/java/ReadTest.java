@@ -43,8 +43,9 @@ public final class ReadTest {
             Run run = new Run();
             run.read(0, TEXTS[fault], fault);
             run.end(0, 0);
-            run.read(0, "z", 0);
-            run.isTold(0, "z");
+            // Nothing of the text before comes to the next one, not even of its open lists.
+            run.read(0, "(y (z) . w)", 0);
+            run.isTold(0, "(y (z) . w)");
             run.end(0, 0);
         }
     }
