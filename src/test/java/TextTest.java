@@ -21,7 +21,8 @@ public final class TextTest {
     }
 
     private static void bytesComeInTheirOrder() {
-        Checks.sentence("Promise 2", "Twenty bytes wait, those of a first, the highest of each first.");
+        Checks.sentence("Promise 2",
+            "Twenty bytes wait, those of a first, the highest of each first.");
         Run run = new Run();
         run.feed(0x28616263, 0x20646566, 0x20676869, 0x206a6b6c, 0x206d6e29);
         run.end(20, 20);
@@ -31,7 +32,8 @@ public final class TextTest {
 
     /** Each byte, at each of the twenty places: no bit is lost, and none spreads to another byte. */
     private static void everyByteComesAsItIs() {
-        Checks.sentence("Promise 2", "Twenty bytes wait, those of a first, the highest of each first.");
+        Checks.sentence("Promise 2",
+            "Twenty bytes wait, those of a first, the highest of each first.");
         for (char sign = 0; sign < 256; sign++) {
             boolean isAtom = "abcdefghijklmnopqrstuvwxyz0123456789+-*/<>=?!_".indexOf(sign) >= 0;
             boolean endsLate = " \n;('".indexOf(sign) >= 0;
@@ -69,7 +71,8 @@ public final class TextTest {
     }
 
     private static void bytesAreZeroAtFirst() {
-        Checks.sentence("Promise 2", "(They are 0 at first, and behind each end() that is not refused.)");
+        Checks.sentence("Promise 2",
+            "(They are 0 at first, and behind each end() that is not refused.)");
         Run run = new Run();
         run.end(20, 20);
         run.read(0, 1);
@@ -85,7 +88,8 @@ public final class TextTest {
     }
 
     private static void bytesAreZeroBehindAnEnd() {
-        Checks.sentence("Promise 2", "(They are 0 at first, and behind each end() that is not refused.)");
+        Checks.sentence("Promise 2",
+            "(They are 0 at first, and behind each end() that is not refused.)");
         for (int n = 0; n < 20; n++) {
             Run run = new Run();
             run.write(";");
@@ -101,7 +105,8 @@ public final class TextTest {
     }
 
     private static void bytesStayBehindOtherCalls() {
-        Checks.sentence("Promise 2", "(They are 0 at first, and behind each end() that is not refused.)");
+        Checks.sentence("Promise 2",
+            "(They are 0 at first, and behind each end() that is not refused.)");
         Run run = Run.with("(a b)");
         run.feed(TWENTY);
         run.read(1, 3);
@@ -122,7 +127,8 @@ public final class TextTest {
     }
 
     private static void onlyTheFirstCome() {
-        Checks.sentence("Promise 3", "The first n of the bytes that wait come behind the TEXT: how many it has.");
+        Checks.sentence("Promise 3",
+            "The first n of the bytes that wait come behind the TEXT: how many it has.");
         for (int n = 1; n <= 11; n++) {
             Run run = new Run();
             run.feed("abcdefghijklmnopqrst");
@@ -148,7 +154,8 @@ public final class TextTest {
     }
 
     private static void textsAreJoined() {
-        Checks.sentence("Promise 3", "The first n of the bytes that wait come behind the TEXT: how many it has.");
+        Checks.sentence("Promise 3",
+            "The first n of the bytes that wait come behind the TEXT: how many it has.");
         Run run = new Run();
         int length = 0;
         for (int n = 1; n <= 20; n++) {
@@ -248,7 +255,8 @@ public final class TextTest {
     }
 
     private static void refusedEndKeepsBytesAndText() {
-        Checks.sentence("Promise 3", "NONE, refused, when n isn't 0 .. 20, or there would be more than 3000.");
+        Checks.sentence("Promise 3",
+            "NONE, refused, when n isn't 0 .. 20, or there would be more than 3000.");
         Run run = new Run();
         run.write("(a ");
         run.feed("b)");
